@@ -28,6 +28,8 @@ public final class ModelTest {
             checks.begin("object " + object);
             new ModelTest(object).play(object < WATCHED);
         }
+        manyRuns(false);
+        manyRuns(true);
         everyShortText();
         checks.end();
     }
@@ -223,6 +225,30 @@ public final class ModelTest {
                 }
             }
         }
+    }
+
+    /** As many runs as there can be rows, merged and cut short. */
+    private static void manyRuns(boolean isCombining) {
+        checks.begin("many runs, combining: " + isCombining);
+        ModelTest m = new ModelTest(isCombining ? 1 : 0);
+        m.same(0, "combine", m.x.combine(isCombining), m.y.combine(isCombining));
+        for (int row = 0; row < 120; row++) {
+            int key = m.below(40);
+            m.same(row, "add", m.x.add(key), m.y.add(key));
+            m.same(row, "flush", m.x.flush(), m.y.flush());
+        }
+        m.same(0, "finish", m.x.finish(), m.y.finish());
+        for (int size = 2; size <= 20; size++) {
+            m.same(0, "grant", m.x.grant(size), m.y.grant(size));
+            m.same(0, "merge", m.x.merge(), m.y.merge());
+            m.same(0, "step", m.x.step(size / 2), m.y.step(size / 2));
+            m.compareAll();
+            m.same(0, "grant", m.x.grant(2), m.y.grant(2));
+            m.compareAll();
+        }
+        m.same(0, "grant", m.x.grant(5), m.y.grant(5));
+        m.same(0, "run", m.x.run(), m.y.run());
+        m.compareAll();
     }
 
     /** All texts of up to five of these signs: each number's first and last digits are among them. */

@@ -28,6 +28,7 @@ public final class PromiseTest {
         promise11Combining();
         promise12();
         promise12NotPossible();
+        promise12ManyRuns();
         promise13And14();
         promise15();
         promise16And17();
@@ -44,6 +45,7 @@ public final class PromiseTest {
         promise28Refused();
         promise29();
         promise29WhatIsUndoable();
+        promise29AnotherPast();
         promise30And31();
         checks.end();
     }
@@ -555,6 +557,30 @@ public final class PromiseTest {
         due("the grant is undone", w.memory(0), 3);
     }
 
+    private static void promise12ManyRuns() {
+        checks.begin("promise 12, as many runs as rows");
+        int[] keys = new int[120];
+        for (int i = 0; i < keys.length; i++) {
+            keys[i] = i * 7 % 120;
+        }
+        GrantedSort x = withRunsOf(3, keys);
+        due("runs", x.runs(), 120);
+        due("merge", x.merge(), 2);
+        checks.same("without the inputs", runNumbers(x).substring(0, 7), "2 3 4 5");
+        due("the last run", x.runAt(117), 119);
+        due("room for no input", x.grant(2), 2);
+        due("the last run", x.runAt(119), 121);
+        x.undo();
+        due("run", x.run(), 118);
+        due("merges", x.count(4), 119);
+        due("costs", x.count(3), 120 + 2 * (120 + 120 + 120 + 112 + 24 + 96 + 56 + 64 + 120));
+        int run = x.runAt(0);
+        due("one run", run, 238);
+        for (int i = 0; i < keys.length; i++) {
+            due("sorted", x.row(run, i, 0), i);
+        }
+    }
+
     private static void promise13And14() {
         checks.begin("promises 13 and 14");
         GrantedSort x = new GrantedSort();
@@ -636,6 +662,7 @@ public final class PromiseTest {
         x.finish();
         x.merge();
         due("an input is no run", x.size(0), NO_SUCH);
+        due("nor is the last one", x.size(1), NO_SUCH);
         x.step(4);
         due("a number is not used again", x.size(0), NO_SUCH);
         due("the output", x.size(2), 4);
@@ -659,6 +686,15 @@ public final class PromiseTest {
         due("NO_SUCH goes ahead of BAD_VALUE", x.row(0, 2, 3), NO_SUCH);
         due("far", x.row(0, Integer.MAX_VALUE, 0), NO_SUCH);
         due("farther", x.row(Integer.MIN_VALUE, Integer.MIN_VALUE, 0), NO_SUCH);
+        GrantedSort y = withKeys(6, false, 1, 2);
+        y.flush();
+        y.add(3);
+        y.finish();
+        y.merge();
+        y.step(1);
+        y.grant(2);
+        due("a run that was cut off", y.row(2, 0, 0), 1);
+        due("behind it", y.row(2, 1, 0), NO_SUCH);
     }
 
     private static void promise20() {
@@ -690,6 +726,10 @@ public final class PromiseTest {
         due("cuts", x.count(5), 1);
         due("runs", x.count(6), 3 + 3);
         due("merges", x.count(4), 1);
+        x.undo();
+        due("cuts, undone", x.count(5), 0);
+        GrantedSort y = withKeys(6, true, 999, 0, 999);
+        due("counts of the greatest key", y.count(2), 3);
     }
 
     private static void promise21() {
@@ -773,6 +813,9 @@ public final class PromiseTest {
         due("nothing recorded", x.undo(), 3);
         GrantedSort y = withRunsOf(2, 1, 2);
         due("two runs", y.bestSize(), 3);
+        due("seven runs", withRunsOf(3, 1, 2, 3, 4, 5, 6, 7).bestSize(), 8);
+        due("eight runs", withRunsOf(3, 1, 2, 3, 4, 5, 6, 7, 8).bestSize(), 9);
+        due("as many runs as eight ways take", withRunsOf(3, new int[64]).bestSize(), 9);
         GrantedSort z = withRunsOf(3, 1, 2, 3, 4, 5, 6, 7, 8, 9);
         int best = z.bestSize();
         int least = z.costsWith(best);
@@ -816,7 +859,7 @@ public final class PromiseTest {
             due(text, withText(text).errorPosition(), text.length());
         }
         String[] wrong = {"!", "a", ",", "x", "-", "00", "01", "1000", "1a", "1,,", "1,x", "7x0", "7x21", "7x30",
-            "7x200", "7xx", "7x-", "7x,", "7x2x", "7x2-", "999-", "5-0", "500-4", "500-500", "998-998", "5-10000",
+            "7x200", "7xx", "7x-", "7x,", "7x2x", "7x2-", "999-", "5-0", "0-0", "500-4", "500-500", "998-998", "5-10000",
             "5-10x", "5-10-", "5-,", "50-4,", "5-x", "5--", "1;", "12X"};
         for (String text : wrong) {
             GrantedSort x = withText(text + "1");
@@ -947,6 +990,32 @@ public final class PromiseTest {
         due("output", y.ofMerge(2), 0);
         y.step(2);
         checks.same("sorted", runAsText(y, 2), "1#0*1 2#1*1");
+    }
+
+    private static void promise29AnotherPast() {
+        checks.begin("promise 29, another past");
+        GrantedSort x = withRunsOf(6, 1, 2, 3);
+        x.merge();
+        x.step(1);
+        x.step(2);
+        x.grant(3);
+        due("undo grant", x.undo(), 3);
+        due("undo the last steps", x.undo(), 2);
+        due("inputs when it was begun", x.ofMerge(0), 3);
+        due("output", x.ofMerge(2), 1);
+        x.step(2);
+        checks.same("the run", runAsText(x, 3), "1#0*1 2#1*1 3#2*1");
+        GrantedSort y = withKeys(6, false, 5, 4, 3);
+        y.flush();
+        y.undo();
+        y.undo();
+        y.add(9);
+        y.flush();
+        checks.same("another last row", runAsText(y, 0), "4#1*1 5#0*1 9#2*1");
+        GrantedSort z = withKeys(6, true, 5, 5);
+        z.undo();
+        z.flush();
+        checks.same("not combined any more", runAsText(z, 0), "5#0*1");
     }
 
     private static void promise30And31() {
