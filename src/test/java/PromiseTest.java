@@ -54,58 +54,6 @@ public final class PromiseTest {
         checks.same(what, got, due);
     }
 
-    private static GrantedSort withKeys(int memory, boolean isCombining, int... keys) {
-        GrantedSort x = new GrantedSort();
-        x.combine(isCombining);
-        x.grant(memory);
-        for (int key : keys) {
-            x.add(key);
-        }
-        return x;
-    }
-
-    /** A sort with a run for each key, in the phase of merging. */
-    private static GrantedSort withRunsOf(int memory, int... keys) {
-        GrantedSort x = new GrantedSort();
-        for (int key : keys) {
-            x.add(key);
-            x.flush();
-        }
-        x.finish();
-        x.grant(memory);
-        return x;
-    }
-
-    private static GrantedSort withText(String text) {
-        GrantedSort x = new GrantedSort();
-        type(x, text);
-        return x;
-    }
-
-    private static void type(GrantedSort x, String text) {
-        x.clearText();
-        for (int i = 0; i < text.length(); i++) {
-            x.append(text.charAt(i));
-        }
-    }
-
-    private static String runAsText(GrantedSort x, int run) {
-        StringBuilder text = new StringBuilder();
-        for (int i = 0; i < x.size(run); i++) {
-            text.append(i == 0 ? "" : " ").append(x.row(run, i, 0));
-            text.append('#').append(x.row(run, i, 1)).append('*').append(x.row(run, i, 2));
-        }
-        return text.toString();
-    }
-
-    private static String runNumbers(GrantedSort x) {
-        StringBuilder text = new StringBuilder();
-        for (int i = 0; i < x.runs(); i++) {
-            text.append(i == 0 ? "" : " ").append(x.runAt(i));
-        }
-        return text.toString();
-    }
-
     private static void constants() {
         checks.begin("constants");
         due("NO_SUCH", GrantedSort.NO_SUCH, NO_SUCH);
@@ -149,7 +97,7 @@ public final class PromiseTest {
         due("add to the full memory", x.add(500), 6);
         due("a run is written", x.runs(), 1);
         due("the row is in memory", x.inMemory(0), 500);
-        checks.same("the run", runAsText(x, 0), "0#0*1 3#3*1 4#4*1 5#5*1 999#1*1 999#2*1");
+        checks.same("the run", Sorts.run(x, 0), "0#0*1 3#3*1 4#4*1 5#5*1 999#1*1 999#2*1");
         for (int i = 7; i < 120; i++) {
             due("add", x.add(i), i);
         }
@@ -163,19 +111,19 @@ public final class PromiseTest {
 
     private static void promise2Combining() {
         checks.begin("promise 2, combining");
-        GrantedSort x = withKeys(3, true, 5, 3, 5, 9);
+        GrantedSort x = Sorts.withKeys(3, true, 5, 3, 5, 9);
         due("rows in memory", x.memory(1), 3);
         due("an equal key with a full memory", x.add(3), 4);
         due("nothing written", x.runs(), 0);
         due("another key", x.add(7), 5);
         due("written", x.runs(), 1);
-        checks.same("the run", runAsText(x, 0), "3#1*2 5#0*2 9#3*1");
+        checks.same("the run", Sorts.run(x, 0), "3#1*2 5#0*2 9#3*1");
         due("equal to a row that was written", x.add(5), 6);
         due("rows in memory", x.memory(1), 2);
         due("rows", x.count(1), 5);
         due("counts", x.count(2), 7);
         due("added", x.count(0), 7);
-        GrantedSort y = withKeys(3, true, 1, 2, 3);
+        GrantedSort y = Sorts.withKeys(3, true, 1, 2, 3);
         for (int i = 3; i < 120; i++) {
             due("combined", y.add(2), i);
         }
@@ -202,7 +150,7 @@ public final class PromiseTest {
         GrantedSort y = new GrantedSort();
         y.finish();
         due("without rows behind finish", y.combine(true), 0);
-        GrantedSort z = withKeys(6, false, 1);
+        GrantedSort z = Sorts.withKeys(6, false, 1);
         z.flush();
         due("behind flush", z.combine(true), NOT_POSSIBLE);
     }
@@ -216,7 +164,7 @@ public final class PromiseTest {
         x.add(2);
         due("first run", x.flush(), 0);
         due("memory", x.memory(1), 0);
-        checks.same("the run", runAsText(x, 0), "2#1*1 8#0*1");
+        checks.same("the run", Sorts.run(x, 0), "2#1*1 8#0*1");
         due("costs", x.count(3), 2);
         due("empty again", x.flush(), NONE);
         x.add(2);
@@ -228,24 +176,24 @@ public final class PromiseTest {
 
     private static void promise5() {
         checks.begin("promise 5");
-        GrantedSort x = withKeys(2, false, 5, 4, 3, 2, 1);
+        GrantedSort x = Sorts.withKeys(2, false, 5, 4, 3, 2, 1);
         due("finish", x.finish(), 3);
         due("isCollecting", x.isCollecting(), 0);
         due("memory(1)", x.memory(1), 0);
-        checks.same("the last run", runAsText(x, 2), "1#4*1");
+        checks.same("the last run", Sorts.run(x, 2), "1#4*1");
         due("costs", x.count(3), 5);
         due("again", x.finish(), NOT_POSSIBLE);
         due("nothing in vain was recorded", x.undo(), 3);
         due("isCollecting", x.isCollecting(), 1);
         due("empty", new GrantedSort().finish(), 0);
-        GrantedSort y = withKeys(2, false, 1);
+        GrantedSort y = Sorts.withKeys(2, false, 1);
         y.flush();
         due("with an empty memory", y.finish(), 1);
     }
 
     private static void promise6() {
         checks.begin("promise 6");
-        GrantedSort x = withKeys(6, false, 1);
+        GrantedSort x = Sorts.withKeys(6, false, 1);
         due("before", x.isCollecting(), 1);
         x.flush();
         due("behind flush", x.isCollecting(), 1);
@@ -297,12 +245,12 @@ public final class PromiseTest {
         int costs = x.count(3);
         due("cut short", x.grant(3), 5);
         due("merging", x.isMerging(), 0);
-        checks.same("run numbers", runNumbers(x), "4 5 6 7 8");
-        checks.same("output", runAsText(x, 4), "1#0*1");
-        checks.same("first input", runAsText(x, 5), "50#1*1");
-        checks.same("second input", runAsText(x, 6), "2#2*1 60#3*1");
-        checks.same("third input", runAsText(x, 7), "3#4*1 70#5*1");
-        checks.same("fourth input", runAsText(x, 8), "4#6*1");
+        checks.same("run numbers", Sorts.runNumbers(x), "4 5 6 7 8");
+        checks.same("output", Sorts.run(x, 4), "1#0*1");
+        checks.same("first input", Sorts.run(x, 5), "50#1*1");
+        checks.same("second input", Sorts.run(x, 6), "2#2*1 60#3*1");
+        checks.same("third input", Sorts.run(x, 7), "3#4*1 70#5*1");
+        checks.same("fourth input", Sorts.run(x, 8), "4#6*1");
         due("no costs", x.count(3), costs);
         due("cuts", x.count(5), 1);
         x.undo();
@@ -312,11 +260,11 @@ public final class PromiseTest {
         due("room for the three left", x.grant(4), 0);
         due("merging", x.isMerging(), 1);
         due("no room", x.grant(3), 4);
-        checks.same("output", runAsText(x, 4), "1#0*1 2#2*1 3#4*1 4#6*1");
-        GrantedSort y = withRunsOf(4, 1, 2, 3);
+        checks.same("output", Sorts.run(x, 4), "1#0*1 2#2*1 3#4*1 4#6*1");
+        GrantedSort y = Sorts.withRunsOf(4, 1, 2, 3);
         y.merge();
         due("cut with an empty output", y.grant(3), 3);
-        checks.same("run numbers", runNumbers(y), "3 4 5");
+        checks.same("run numbers", Sorts.runNumbers(y), "3 4 5");
         due("numbered", y.count(6), 6);
         GrantedSort z = new GrantedSort();
         for (int i = 0; i < 3; i++) {
@@ -332,7 +280,7 @@ public final class PromiseTest {
         due("one input with rows left needs one way", z.grant(2), 0);
         due("the merge goes on", z.step(9), 1);
         due("done", z.isDone(), 1);
-        GrantedSort w = withRunsOf(20, 1, 2, 3, 4, 5, 6, 7, 8, 9);
+        GrantedSort w = Sorts.withRunsOf(20, 1, 2, 3, 4, 5, 6, 7, 8, 9);
         due("eight ways at the most", w.merge(), 8);
         due("nine rows are enough", w.grant(9), 0);
         due("eight are not", w.grant(8), 8);
@@ -340,7 +288,7 @@ public final class PromiseTest {
 
     private static void promise7Combining() {
         checks.begin("promise 7, combining");
-        GrantedSort x = withKeys(6, true, 5);
+        GrantedSort x = Sorts.withKeys(6, true, 5);
         x.flush();
         x.add(5);
         x.flush();
@@ -355,13 +303,13 @@ public final class PromiseTest {
         due("cut", x.grant(2), 3);
         due("rows with equal keys in different runs", x.count(1), 3);
         due("counts", x.count(2), 3);
-        checks.same("run 3", runAsText(x, 3), "5#0*1");
-        checks.same("run 4", runAsText(x, 4), "5#1*1");
+        checks.same("run 3", Sorts.run(x, 3), "5#0*1");
+        checks.same("run 4", Sorts.run(x, 4), "5#1*1");
     }
 
     private static void promise8() {
         checks.begin("promise 8");
-        GrantedSort x = withKeys(4, false, 9, 8, 7);
+        GrantedSort x = Sorts.withKeys(4, false, 9, 8, 7);
         due("size", x.memory(0), 4);
         due("rows", x.memory(1), 3);
         due("ways", x.memory(2), 3);
@@ -372,7 +320,7 @@ public final class PromiseTest {
             due("size", x.memory(0), size);
             due("ways", x.memory(2), Math.min(size - 1, 8));
         }
-        GrantedSort y = withRunsOf(6, 1, 2, 3);
+        GrantedSort y = Sorts.withRunsOf(6, 1, 2, 3);
         due("no merge", y.memory(1), 0);
         y.merge();
         due("begun", y.memory(1), 4);
@@ -384,7 +332,7 @@ public final class PromiseTest {
 
     private static void promise9() {
         checks.begin("promise 9");
-        GrantedSort x = withKeys(6, false, 30, 10, 20);
+        GrantedSort x = Sorts.withKeys(6, false, 30, 10, 20);
         due("0", x.inMemory(0), 30);
         due("1", x.inMemory(1), 10);
         due("2", x.inMemory(2), 20);
@@ -394,7 +342,7 @@ public final class PromiseTest {
         due("farther", x.inMemory(Integer.MIN_VALUE), NO_SUCH);
         x.finish();
         due("behind finish", x.inMemory(0), NO_SUCH);
-        GrantedSort y = withKeys(6, true, 30, 10, 30, 20);
+        GrantedSort y = Sorts.withKeys(6, true, 30, 10, 30, 20);
         due("combined rows take no room", y.inMemory(2), 20);
         due("combined", y.inMemory(3), NO_SUCH);
     }
@@ -413,20 +361,20 @@ public final class PromiseTest {
         due("while rows are collected", x.merge(), NOT_POSSIBLE);
         x.finish();
         due("four ways", x.merge(), 4);
-        checks.same("the longest two stay", runNumbers(x), "0 4");
+        checks.same("the longest two stay", Sorts.runNumbers(x), "0 4");
         due("rows", x.ofMerge(3), 6);
         due("merges", x.count(4), 1);
         due("there is a merge", x.merge(), NOT_POSSIBLE);
         x.undo();
         x.grant(4);
         due("three ways", x.merge(), 3);
-        checks.same("the lower number goes first", runNumbers(x), "0 4 5");
+        checks.same("the lower number goes first", Sorts.runNumbers(x), "0 4 5");
         x.step(200);
         due("all that are left", x.grant(20), 0);
         due("all", x.merge(), 4);
         x.step(200);
         due("one run", x.merge(), NOT_POSSIBLE);
-        GrantedSort y = withRunsOf(2, 1, 2);
+        GrantedSort y = Sorts.withRunsOf(2, 1, 2);
         due("one way", y.merge(), NOT_POSSIBLE);
         y.grant(3);
         due("two ways", y.merge(), 2);
@@ -459,10 +407,10 @@ public final class PromiseTest {
         due("left", x.ofMerge(3), 3);
         due("no run yet", x.runs(), 0);
         due("the rest", x.step(200), 3);
-        checks.same("the run", runAsText(x, 3), "3#1*1 3#2*1 5#4*1 7#0*1 9#3*1");
+        checks.same("the run", Sorts.run(x, 3), "3#1*1 3#2*1 5#4*1 7#0*1 9#3*1");
         due("over", x.step(1), NOT_POSSIBLE);
         due("costs", x.count(3), 15);
-        GrantedSort y = withRunsOf(6, 1, 2);
+        GrantedSort y = Sorts.withRunsOf(6, 1, 2);
         y.merge();
         due("all steps and no more", y.step(2), 2);
         due("over with the last row", y.isMerging(), 0);
@@ -470,7 +418,7 @@ public final class PromiseTest {
 
     private static void promise11Combining() {
         checks.begin("promise 11, combining");
-        GrantedSort x = withKeys(6, true, 4, 4, 8);
+        GrantedSort x = Sorts.withKeys(6, true, 4, 4, 8);
         x.flush();
         x.add(4);
         x.add(8);
@@ -485,23 +433,23 @@ public final class PromiseTest {
         due("combining costs nothing", x.count(3), costs + 4);
         due("rows", x.count(1), 4);
         due("steps", x.step(200), 3);
-        checks.same("the run", runAsText(x, 3), "4#0*4 6#6*1 8#2*2");
+        checks.same("the run", Sorts.run(x, 3), "4#0*4 6#6*1 8#2*2");
         due("counts", x.count(2), 7);
-        GrantedSort y = withKeys(6, false, 4);
+        GrantedSort y = Sorts.withKeys(6, false, 4);
         y.flush();
         y.add(4);
         y.finish();
         y.merge();
         y.step(2);
-        checks.same("without combining", runAsText(y, 2), "4#0*1 4#1*1");
+        checks.same("without combining", Sorts.run(y, 2), "4#0*1 4#1*1");
     }
 
     private static void promise12() {
         checks.begin("promise 12");
-        GrantedSort x = withKeys(3, false, 9, 8, 7, 6, 5, 4, 3, 2, 1, 0);
+        GrantedSort x = Sorts.withKeys(3, false, 9, 8, 7, 6, 5, 4, 3, 2, 1, 0);
         due("run", x.run(), 3);
         due("done", x.isDone(), 1);
-        checks.same("sorted", runAsText(x, x.runAt(0)),
+        checks.same("sorted", Sorts.run(x, x.runAt(0)),
             "0#9*1 1#8*1 2#7*1 3#6*1 4#5*1 5#4*1 6#3*1 7#2*1 8#1*1 9#0*1");
         due("merges", x.count(4), 3);
         due("costs", x.count(3), 10 + 2 * (4 + 6 + 10));
@@ -511,24 +459,24 @@ public final class PromiseTest {
         x.undo();
         due("undone", x.isCollecting(), 1);
         due("nothing at all", new GrantedSort().run(), 0);
-        GrantedSort y = withRunsOf(6, 1, 2, 3, 4, 5, 6, 7);
+        GrantedSort y = Sorts.withRunsOf(6, 1, 2, 3, 4, 5, 6, 7);
         y.merge();
         y.step(2);
         due("the merge there is is not counted", y.run(), 1);
         due("merges", y.count(4), 2);
-        checks.same("run numbers", runNumbers(y), "8");
+        checks.same("run numbers", Sorts.runNumbers(y), "8");
     }
 
     private static void promise12NotPossible() {
         checks.begin("promise 12, not possible");
-        GrantedSort x = withKeys(2, false, 1, 2, 3);
+        GrantedSort x = Sorts.withKeys(2, false, 1, 2, 3);
         due("a run and a row in memory", x.run(), NOT_POSSIBLE);
         due("nothing has changed", x.isCollecting(), 1);
         due("the row is there", x.memory(1), 1);
-        GrantedSort y = withKeys(2, false, 1, 2);
+        GrantedSort y = Sorts.withKeys(2, false, 1, 2);
         due("one run needs no merge", y.run(), 0);
         due("done", y.isDone(), 1);
-        GrantedSort z = withKeys(6, false, 1, 2);
+        GrantedSort z = Sorts.withKeys(6, false, 1, 2);
         z.flush();
         z.add(0);
         z.finish();
@@ -563,10 +511,10 @@ public final class PromiseTest {
         for (int i = 0; i < keys.length; i++) {
             keys[i] = i * 7 % 120;
         }
-        GrantedSort x = withRunsOf(3, keys);
+        GrantedSort x = Sorts.withRunsOf(3, keys);
         due("runs", x.runs(), 120);
         due("merge", x.merge(), 2);
-        checks.same("without the inputs", runNumbers(x).substring(0, 7), "2 3 4 5");
+        due("without the inputs", x.runAt(0), 2);
         due("the last run", x.runAt(117), 119);
         due("room for no input", x.grant(2), 2);
         due("the last run", x.runAt(119), 121);
@@ -634,7 +582,7 @@ public final class PromiseTest {
 
     private static void promise16And17() {
         checks.begin("promises 16 and 17");
-        GrantedSort x = withRunsOf(3, 5, 4, 3, 2);
+        GrantedSort x = Sorts.withRunsOf(3, 5, 4, 3, 2);
         due("runs", x.runs(), 4);
         due("runAt(3)", x.runAt(3), 3);
         due("runAt(4)", x.runAt(4), NO_SUCH);
@@ -652,7 +600,7 @@ public final class PromiseTest {
 
     private static void promise18() {
         checks.begin("promise 18");
-        GrantedSort x = withKeys(6, false, 3, 2, 1);
+        GrantedSort x = Sorts.withKeys(6, false, 3, 2, 1);
         due("no run", x.size(0), NO_SUCH);
         x.flush();
         due("three rows", x.size(0), 3);
@@ -670,7 +618,7 @@ public final class PromiseTest {
 
     private static void promise19() {
         checks.begin("promise 19");
-        GrantedSort x = withKeys(6, true, 7, 3, 7);
+        GrantedSort x = Sorts.withKeys(6, true, 7, 3, 7);
         due("no run", x.row(0, 0, 0), NO_SUCH);
         x.flush();
         due("key", x.row(0, 1, 0), 7);
@@ -686,7 +634,7 @@ public final class PromiseTest {
         due("NO_SUCH goes ahead of BAD_VALUE", x.row(0, 2, 3), NO_SUCH);
         due("far", x.row(0, Integer.MAX_VALUE, 0), NO_SUCH);
         due("farther", x.row(Integer.MIN_VALUE, Integer.MIN_VALUE, 0), NO_SUCH);
-        GrantedSort y = withKeys(6, false, 1, 2);
+        GrantedSort y = Sorts.withKeys(6, false, 1, 2);
         y.flush();
         y.add(3);
         y.finish();
@@ -699,7 +647,7 @@ public final class PromiseTest {
 
     private static void promise20() {
         checks.begin("promise 20");
-        GrantedSort x = withKeys(6, true, 5, 5, 6);
+        GrantedSort x = Sorts.withKeys(6, true, 5, 5, 6);
         due("-1", x.count(-1), BAD_VALUE);
         due("7", x.count(7), BAD_VALUE);
         x.flush();
@@ -728,13 +676,13 @@ public final class PromiseTest {
         due("merges", x.count(4), 1);
         x.undo();
         due("cuts, undone", x.count(5), 0);
-        GrantedSort y = withKeys(6, true, 999, 0, 999);
+        GrantedSort y = Sorts.withKeys(6, true, 999, 0, 999);
         due("counts of the greatest key", y.count(2), 3);
     }
 
     private static void promise21() {
         checks.begin("promise 21");
-        GrantedSort x = withKeys(6, true, 5, 5, 6, 0);
+        GrantedSort x = Sorts.withKeys(6, true, 5, 5, 6, 0);
         due("-1", x.rank(-1), BAD_VALUE);
         due("1000", x.rank(1000), BAD_VALUE);
         due("0", x.rank(0), 0);
@@ -754,7 +702,7 @@ public final class PromiseTest {
 
     private static void promise22And23() {
         checks.begin("promises 22 and 23");
-        GrantedSort x = withKeys(3, false, 9, 8, 7, 6, 5, 4, 3, 2, 1, 0);
+        GrantedSort x = Sorts.withKeys(3, false, 9, 8, 7, 6, 5, 4, 3, 2, 1, 0);
         due("costsWith(1)", x.costsWith(1), BAD_VALUE);
         due("costsWith(21)", x.costsWith(21), BAD_VALUE);
         due("mergesWith(1)", x.mergesWith(1), BAD_VALUE);
@@ -773,7 +721,7 @@ public final class PromiseTest {
         due("memory", x.memory(0), 3);
         due("numbers", x.count(6), 3);
         due("nothing recorded", x.undo(), 3);
-        GrantedSort y = withKeys(6, true, 5);
+        GrantedSort y = Sorts.withKeys(6, true, 5);
         y.flush();
         y.add(5);
         y.finish();
@@ -781,7 +729,7 @@ public final class PromiseTest {
         y.run();
         due("done", y.costsWith(2), 0);
         due("done", y.mergesWith(2), 0);
-        GrantedSort z = withKeys(6, false, 1, 2, 3);
+        GrantedSort z = Sorts.withKeys(6, false, 1, 2, 3);
         due("grant writes and run needs no merge", z.costsWith(2), 3);
         z.flush();
         due("one run", z.costsWith(2), 0);
@@ -789,7 +737,7 @@ public final class PromiseTest {
 
     private static void promise22WhileMerging() {
         checks.begin("promises 22 and 23, merging");
-        GrantedSort x = withRunsOf(4, 1, 2, 3);
+        GrantedSort x = Sorts.withRunsOf(4, 1, 2, 3);
         x.merge();
         x.step(1);
         due("going on", x.costsWith(3), 4);
@@ -806,24 +754,24 @@ public final class PromiseTest {
     private static void promise24() {
         checks.begin("promise 24");
         due("no rows", new GrantedSort().bestSize(), 2);
-        due("one run", withKeys(6, false, 1, 2, 3).bestSize(), 2);
-        GrantedSort x = withKeys(3, false, 9, 8, 7, 6, 5, 4, 3, 2, 1, 0);
+        due("one run", Sorts.withKeys(6, false, 1, 2, 3).bestSize(), 2);
+        GrantedSort x = Sorts.withKeys(3, false, 9, 8, 7, 6, 5, 4, 3, 2, 1, 0);
         due("four runs at once", x.bestSize(), 5);
         due("nothing changed", x.memory(0), 3);
         due("nothing recorded", x.undo(), 3);
-        GrantedSort y = withRunsOf(2, 1, 2);
+        GrantedSort y = Sorts.withRunsOf(2, 1, 2);
         due("two runs", y.bestSize(), 3);
-        due("seven runs", withRunsOf(3, 1, 2, 3, 4, 5, 6, 7).bestSize(), 8);
-        due("eight runs", withRunsOf(3, 1, 2, 3, 4, 5, 6, 7, 8).bestSize(), 9);
-        due("as many runs as eight ways take", withRunsOf(3, new int[64]).bestSize(), 9);
-        GrantedSort z = withRunsOf(3, 1, 2, 3, 4, 5, 6, 7, 8, 9);
+        due("seven runs", Sorts.withRunsOf(3, 1, 2, 3, 4, 5, 6, 7).bestSize(), 8);
+        due("eight runs", Sorts.withRunsOf(3, 1, 2, 3, 4, 5, 6, 7, 8).bestSize(), 9);
+        due("as many runs as eight ways take", Sorts.withRunsOf(3, new int[64]).bestSize(), 9);
+        GrantedSort z = Sorts.withRunsOf(3, 1, 2, 3, 4, 5, 6, 7, 8, 9);
         int best = z.bestSize();
         int least = z.costsWith(best);
         for (int size = 3; size <= 20; size++) {
             checks.holds("no size is better", z.costsWith(size) >= least);
             checks.holds("no less size is as good", size >= best || z.costsWith(size) > least);
         }
-        GrantedSort w = withRunsOf(4, 1, 2, 3);
+        GrantedSort w = Sorts.withRunsOf(4, 1, 2, 3);
         w.merge();
         due("a cut costs more", w.bestSize(), 4);
         w.step(2);
@@ -852,73 +800,73 @@ public final class PromiseTest {
         checks.begin("promise 27");
         String[] texts = {"0", "999", "7x2", "7x20", "0x9", "0-1", "998-999", "5-10", "1,2,3", "0,0x2,0-999"};
         for (String text : texts) {
-            due(text, withText(text).errorPosition(), NONE);
+            due(text, Sorts.withText(text).errorPosition(), NONE);
         }
         String[] unfinished = {"", "1,", "7x", "7x1", "7-", "50-4", "5-5", "500-50", "9-10,"};
         for (String text : unfinished) {
-            due(text, withText(text).errorPosition(), text.length());
+            due(text, Sorts.withText(text).errorPosition(), text.length());
         }
         String[] wrong = {"!", "a", ",", "x", "-", "00", "01", "1000", "1a", "1,,", "1,x", "7x0", "7x21", "7x30",
             "7x200", "7xx", "7x-", "7x,", "7x2x", "7x2-", "999-", "5-0", "0-0", "500-4",
             "500-500", "998-998", "5-10000",
             "5-10x", "5-10-", "5-,", "50-4,", "5-x", "5--", "1;", "12X"};
         for (String text : wrong) {
-            GrantedSort x = withText(text + "1");
+            GrantedSort x = Sorts.withText(text + "1");
             due(text, x.errorPosition(), text.length() - (text.equals("5-10000") ? 2 : 1));
         }
-        GrantedSort full = withText("1,".repeat(40));
+        GrantedSort full = Sorts.withText("1,".repeat(40));
         due("80 characters that are no text", full.errorPosition(), 80);
         due("the buffer stays", full.clearText(), 80);
-        due("an early error", withText("x1,2").errorPosition(), 0);
-        due("the second item", withText("5-9,9-9,x").errorPosition(), 7);
+        due("an early error", Sorts.withText("x1,2").errorPosition(), 0);
+        due("the second item", Sorts.withText("5-9,9-9,x").errorPosition(), 7);
     }
 
     private static void promise28() {
         checks.begin("promise 28");
-        GrantedSort x = withText("5,3x4,8-10");
+        GrantedSort x = Sorts.withText("5,3x4,8-10");
         due("read", x.read(), 8);
         due("emptied", x.clearText(), 0);
         due("in memory", x.inMemory(0), 9);
         due("in memory", x.inMemory(1), 10);
-        checks.same("the run", runAsText(x, 0), "3#1*1 3#2*1 3#3*1 3#4*1 5#0*1 8#5*1");
+        checks.same("the run", Sorts.run(x, 0), "3#1*1 3#2*1 3#3*1 3#4*1 5#0*1 8#5*1");
         due("undo", x.undo(), 0);
         due("no rows", x.count(0), 0);
         due("the buffer is not undone", x.clearText(), 0);
-        type(x, "0-999,1");
+        Sorts.type(x, "0-999,1");
         due("up to the 120th row", x.read(), 120);
         due("rows", x.count(0), 120);
         due("the last one", x.inMemory(5), 119);
-        type(x, "1x20");
+        Sorts.type(x, "1x20");
         due("no room", x.read(), 0);
         due("emptied all the same", x.clearText(), 0);
         due("recorded all the same", x.undo(), 1);
-        GrantedSort y = withKeys(6, false, 1, 1, 1);
+        GrantedSort y = Sorts.withKeys(6, false, 1, 1, 1);
         for (int i = 3; i < 118; i++) {
             y.add(i);
         }
-        type(y, "4,7x3,5");
+        Sorts.type(y, "4,7x3,5");
         due("two rows more", y.read(), 2);
         due("keys", y.inMemory(y.memory(1) - 1), 7);
-        GrantedSort z = withKeys(6, true);
-        type(z, "5x3,4,5");
+        GrantedSort z = Sorts.withKeys(6, true);
+        Sorts.type(z, "5x3,4,5");
         due("combined rows are added too", z.read(), 5);
         due("two rows", z.memory(1), 2);
     }
 
     private static void promise28Refused() {
         checks.begin("promise 28, refused");
-        GrantedSort x = withText("");
+        GrantedSort x = Sorts.withText("");
         due("empty", x.read(), BAD_TEXT);
-        type(x, "5,");
+        Sorts.type(x, "5,");
         due("unfinished", x.read(), BAD_TEXT);
         due("the buffer stays", x.append('6'), 3);
         due("nothing recorded", x.undo(), NOT_POSSIBLE);
         due("now it is a text", x.read(), 2);
         x.finish();
-        type(x, "5");
+        Sorts.type(x, "5");
         due("behind finish", x.read(), NOT_POSSIBLE);
         due("the buffer stays", x.clearText(), 1);
-        type(x, "5;");
+        Sorts.type(x, "5;");
         due("BAD_TEXT goes ahead of NOT_POSSIBLE", x.read(), BAD_TEXT);
         due("the buffer stays", x.clearText(), 2);
     }
@@ -946,7 +894,7 @@ public final class PromiseTest {
         due("memory", x.memory(0), 18);
         due("undo", x.undo(), 2);
         due("memory", x.memory(0), 17);
-        GrantedSort y = withText("1,2");
+        GrantedSort y = Sorts.withText("1,2");
         y.add(3);
         y.save();
         y.undo();
@@ -973,7 +921,7 @@ public final class PromiseTest {
         due("save is not", x.undo(), NOT_POSSIBLE);
         x.restore();
         due("restore", x.undo(), 0);
-        type(x, "1,2");
+        Sorts.type(x, "1,2");
         x.read();
         due("read", x.undo(), 0);
         x.clearText();
@@ -981,7 +929,7 @@ public final class PromiseTest {
         x.bestSize();
         x.errorPosition();
         due("nothing else", x.undo(), NOT_POSSIBLE);
-        GrantedSort y = withRunsOf(6, 1, 2);
+        GrantedSort y = Sorts.withRunsOf(6, 1, 2);
         y.merge();
         due("merge", y.undo(), 3);
         y.merge();
@@ -990,12 +938,12 @@ public final class PromiseTest {
         due("the merge is as it was", y.ofMerge(3), 2);
         due("output", y.ofMerge(2), 0);
         y.step(2);
-        checks.same("sorted", runAsText(y, 2), "1#0*1 2#1*1");
+        checks.same("sorted", Sorts.run(y, 2), "1#0*1 2#1*1");
     }
 
     private static void promise29AnotherPast() {
         checks.begin("promise 29, another past");
-        GrantedSort x = withRunsOf(6, 1, 2, 3);
+        GrantedSort x = Sorts.withRunsOf(6, 1, 2, 3);
         x.merge();
         x.step(1);
         x.step(2);
@@ -1005,18 +953,18 @@ public final class PromiseTest {
         due("inputs when it was begun", x.ofMerge(0), 3);
         due("output", x.ofMerge(2), 1);
         x.step(2);
-        checks.same("the run", runAsText(x, 3), "1#0*1 2#1*1 3#2*1");
-        GrantedSort y = withKeys(6, false, 5, 4, 3);
+        checks.same("the run", Sorts.run(x, 3), "1#0*1 2#1*1 3#2*1");
+        GrantedSort y = Sorts.withKeys(6, false, 5, 4, 3);
         y.flush();
         y.undo();
         y.undo();
         y.add(9);
         y.flush();
-        checks.same("another last row", runAsText(y, 0), "4#1*1 5#0*1 9#2*1");
-        GrantedSort z = withKeys(6, true, 5, 5);
+        checks.same("another last row", Sorts.run(y, 0), "4#1*1 5#0*1 9#2*1");
+        GrantedSort z = Sorts.withKeys(6, true, 5, 5);
         z.undo();
         z.flush();
-        checks.same("not combined any more", runAsText(z, 0), "5#0*1");
+        checks.same("not combined any more", Sorts.run(z, 0), "5#0*1");
     }
 
     private static void promise30And31() {
@@ -1045,7 +993,7 @@ public final class PromiseTest {
         x.undo();
         due("overwritten", x.restore(), 3);
         due("the last row", x.inMemory(2), 1);
-        GrantedSort y = withRunsOf(6, 1, 2, 3);
+        GrantedSort y = Sorts.withRunsOf(6, 1, 2, 3);
         y.merge();
         y.step(1);
         due("save in a merge", y.save(), 3);
@@ -1054,8 +1002,8 @@ public final class PromiseTest {
         due("the merge is back", y.ofMerge(3), 2);
         due("output", y.ofMerge(2), 1);
         y.step(200);
-        checks.same("the run", runAsText(y, 3), "1#0*1 2#1*1 3#2*1");
-        type(y, "12");
+        checks.same("the run", Sorts.run(y, 3), "1#0*1 2#1*1 3#2*1");
+        Sorts.type(y, "12");
         y.restore();
         due("the buffer is no state", y.clearText(), 2);
         GrantedSort z = new GrantedSort();
