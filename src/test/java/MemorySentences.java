@@ -84,10 +84,9 @@ final class MemorySentences extends SentenceGroup {
         due("flushed", x.memory(1), 0);
         due("the greatest memory", Sorts.withRows(20, 40).memory(1), 20);
         holds("Promise 8", "2 for the ways of a merge that would be begun now (the size minus 1, but at most 8)");
-        int[] ways = {1, 2, 3, 4, 5, 6, 7, 8, 8, 8, 8, 8, 8, 8, 8, 8, 8, 8, 8};
         for (int size = 2; size <= 20; size++) {
             x.grant(size);
-            due("ways while rows are collected, with the memory " + size, x.memory(2), ways[size - 2]);
+            due("ways while rows are collected, with the memory " + size, x.memory(2), WAYS[size - 2]);
         }
         GrantedSort y = Sorts.withRuns(9, false, "1/2/3");
         y.merge();

@@ -41,6 +41,14 @@ final class MergeTermsSentences extends SentenceGroup {
         GrantedSort y = Sorts.withRuns(4, false, "1 2 / 3 4 / 5 6 / 7 8 / 9 10");
         y.merge();
         due("all alike", Sorts.runNumbers(y), "3 4");
+        GrantedSort z = Sorts.withRows(2, 119);
+        z.finish();
+        z.grant(3);
+        z.merge();
+        due("the last one of 60, and the first one", z.runs(), 58);
+        due("the first run that stays", z.runAt(0), 1);
+        due("the last run that stays", z.runAt(57), 58);
+        due("each of them once", z.runAt(31), 32);
     }
 
     private void asManyAsItHasWays() {

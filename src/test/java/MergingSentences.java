@@ -143,6 +143,12 @@ final class MergingSentences extends SentenceGroup {
         due("it is the last one", y.run(), 0);
         due("sorted", Sorts.disk(y), "2: 7#0*2");
         due("done", y.isDone(), 1);
+        GrantedSort z = Sorts.withRows(20, 120);
+        z.finish();
+        due("a merge of all 120 rows", z.merge(), 6);
+        due("all its steps", z.run(), 0);
+        due("done", z.isDone(), 1);
+        due("all rows", z.size(6), 120);
     }
 
     private void promise12NotPossible() {

@@ -15,6 +15,8 @@ final class PastSentences extends SentenceGroup {
         whatMakesNoDifference();
         atMost4States();
         whatTheStateIs();
+        stateOf120Rows();
+        stateOf120Runs();
         promise29Latest();
         promise29NotPossible();
         promise30();
@@ -168,6 +170,50 @@ final class PastSentences extends SentenceGroup {
         due("restore", z.restore(), 2);
         due("recorded: what was left, and one more", z.undo(), 1);
         due("the buffer stays", z.read(), 3);
+    }
+
+    private void stateOf120Rows() {
+        holds("Terms", "The state is everything except the buffer, the saved state of save() and the recorded states.");
+        GrantedSort x = Sorts.withKeys(6, true);
+        Sorts.type(x, "1-119");
+        x.read();
+        x.add(0);
+        x.flush();
+        x.save();
+        String run = Sorts.run(x, 19);
+        due("the run with the 120th row", run, "0#119*1 115#114*1 116#115*1 117#116*1 118#117*1 119#118*1");
+        x.undo();
+        x.undo();
+        x.add(118);
+        due("the 120th row is combined", x.count(1), 119);
+        x.flush();
+        due("another run", Sorts.run(x, 19), "115#114*1 116#115*1 117#116*1 118#117*2 119#118*1");
+        x.restore();
+        due("the run behind restore()", Sorts.run(x, 19), run);
+        due("rows", x.count(1), 120);
+        x.undo();
+        x.undo();
+        x.undo();
+        x.add(999);
+        x.flush();
+        due("a third run", Sorts.run(x, 19), "115#114*1 116#115*1 117#116*1 118#117*1 119#118*1 999#119*1");
+        x.restore();
+        due("the run behind restore()", Sorts.run(x, 19), run);
+        due("rank of the 120 rows", x.rank(999), 120);
+    }
+
+    private void stateOf120Runs() {
+        holds("Terms", "The state is everything except the buffer, the saved state of save() and the recorded states.");
+        GrantedSort x = Sorts.withRunsOf(9, new int[120]);
+        x.merge();
+        x.grant(2);
+        due("the last run is another one", x.runAt(119), 127);
+        due("its row", x.row(127, 0, 1), 7);
+        x.undo();
+        x.undo();
+        due("the last run behind undo()", x.runAt(119), 119);
+        due("its row", x.row(119, 0, 1), 119);
+        due("the first run behind undo()", x.row(0, 0, 1), 0);
     }
 
     private void promise29Latest() {

@@ -14,6 +14,9 @@ abstract class SentenceGroup {
     static final int[] FAR = {Integer.MIN_VALUE, Integer.MIN_VALUE + 1, -1000, 100_000, Integer.MAX_VALUE - 1,
         Integer.MAX_VALUE};
 
+    /** The ways of a merge with a memory of 2, 3, .. 20 rows. */
+    static final int[] WAYS = {1, 2, 3, 4, 5, 6, 7, 8, 8, 8, 8, 8, 8, 8, 8, 8, 8, 8, 8};
+
     private final Checks checks;
     private final Document document;
     private String test = "";

@@ -24,7 +24,11 @@ final class States {
         states.put("combined rows", () -> Sorts.withKeys(3, true, 5, 3, 5, 9));
         states.put("a run, a row and one way", () -> Sorts.withKeys(2, false, 5, 3, 4));
         states.put("an empty memory behind a run", after(() -> Sorts.withKeys(6, false, 4, 2), GrantedSort::flush));
+        states.put("a full memory of 20 rows", () -> Sorts.withKeys(20, false, 40, 38, 36, 34, 32, 30, 28, 26, 24, 22,
+            20, 18, 16, 14, 12, 10, 8, 6, 4, 2));
         states.put("120 rows", () -> Sorts.withRows(6, 120));
+        states.put("120 rows, the last one comes first", after(() -> Sorts.withText("1-119"), GrantedSort::read,
+            x -> x.add(0)));
     }
 
     private static void merging(Map<String, Supplier<GrantedSort>> states) {

@@ -245,6 +245,21 @@ final class TermsSentences extends SentenceGroup {
         y.merge();
         y.step(5);
         due("in a merge", Sorts.disk(y), "4: 5#0*1 5#2*1 6#1*1 7#3*1 8#4*1");
+        GrantedSort z = Sorts.withRows(20, 116);
+        z.flush();
+        for (int key = 40; key <= 41; key++) {
+            z.add(key);
+            z.flush();
+        }
+        z.add(60);
+        z.add(50);
+        z.finish();
+        z.grant(3);
+        z.merge();
+        z.step(2);
+        z.merge();
+        z.step(4);
+        due("the 120th row, in a run of a lower number", Sorts.run(z, 10), "40#116*1 41#117*1 50#119*1 60#118*1");
     }
 
     private void roomFor2To20() {
@@ -398,10 +413,9 @@ final class TermsSentences extends SentenceGroup {
     private void ways() {
         holds("Terms", "A merge needs memory for one row of each input and one row of the output; so a merge has at"
             + " most so many inputs, its ways: the size of the memory minus 1, but at most 8.");
-        int[] ways = {1, 2, 3, 4, 5, 6, 7, 8, 8, 8, 8, 8, 8, 8, 8, 8, 8, 8, 8};
         for (int size = 2; size <= 20; size++) {
             GrantedSort x = Sorts.withRuns(size, false, "1/2/3/4/5/6/7/8/9/10");
-            int due = ways[size - 2];
+            int due = WAYS[size - 2];
             due("ways with the memory " + size, x.memory(2), due);
             due("inputs with the memory " + size, x.merge(), due < 2 ? NOT_POSSIBLE : due);
             due("memory that it needs", x.memory(1), due < 2 ? 0 : due + 1);

@@ -6,7 +6,8 @@ import java.util.function.Supplier;
 final class TextSentences extends SentenceGroup {
     // Two characters that stand beside each one that a text can hold, and the ends of the range.
     private static final String SIGNS = "0123456789,x-./:+wyX!~";
-    private static final int[] FIRST_KEYS = {0, 1, 2, 9, 10, 19, 20, 99, 100, 199, 500, 989, 990, 998, 999};
+    private static final int[] FIRST_KEYS = {0, 1, 2, 9, 10, 11, 19, 20, 99, 100, 109, 110, 111, 199, 500, 555, 989,
+        990, 998, 999};
 
     private final Set<String> items = new HashSet<>();
     private final Set<String> beginnings = new HashSet<>();
@@ -147,6 +148,8 @@ final class TextSentences extends SentenceGroup {
         dueError("99-1", 4);
         dueError("99-10", 5);
         dueError("99-100", NONE);
+        dueError("110-10", 5);
+        dueError("110-11", 6);
     }
 
     private void charactersThatAreErrors() {
