@@ -26,7 +26,10 @@ public final class FaceTest {
         constants();
         nestedClasses();
         checks.begin("words of " + args[0]);
-        words(Files.readString(Path.of(args[0])));
+        String source = Files.readString(Path.of(args[0]));
+        words(source);
+        lengths(source);
+        objects(source);
         checks.end();
     }
 
@@ -75,7 +78,11 @@ public final class FaceTest {
     }
 
     private static void nestedClasses() {
+        checks.holds("some twelve classes", GrantedSort.class.getDeclaredClasses().length < 12);
         for (Class<?> c : GrantedSort.class.getDeclaredClasses()) {
+            for (Method m : c.getDeclaredMethods()) {
+                checks.holds(c.getName() + "." + m.getName() + " has few parameters", m.getParameterCount() <= 7);
+            }
             int flags = c.getModifiers();
             checks.holds(c.getName() + " is static", Modifier.isStatic(flags));
             checks.holds(c.getName() + " is not open", !Modifier.isPublic(flags) && !Modifier.isProtected(flags));
@@ -93,5 +100,26 @@ public final class FaceTest {
         }
         checks.holds("no lambda", !code.contains("->"));
         checks.holds("no method reference", !code.contains("::"));
+    }
+
+    /** Each method ends with a brace that is as far from the left as its first line. */
+    private static void lengths(String source) {
+        Matcher m = Pattern.compile("(?ms)^( {4}(?: {4})?)(?:[\\w\\[\\]]+ )*(\\w+)\\([^()\n]*\\) \\{\n.*?^\\1\\}$")
+            .matcher(source);
+        int methods = 0;
+        while (m.find()) {
+            methods++;
+            checks.holds(m.group(2) + " is short", m.group().lines().count() <= 60);
+        }
+        checks.holds("methods were found", methods > 100);
+    }
+
+    /** Objects are made with the sort, so that the calls of a run need no room. */
+    private static void objects(String source) {
+        String field = " +(private )?final \\S+ \\w+ = new .*";
+        String recorded = " +states\\[i\\] = new SortState\\(\\);";
+        for (String line : source.lines().filter(l -> l.matches(".*\\bnew\\b.*")).toList()) {
+            checks.holds("made with the sort: " + line.trim(), line.matches(field + "|" + recorded));
+        }
     }
 }
